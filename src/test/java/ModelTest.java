@@ -1,0 +1,327 @@
+import java.util.ArrayList;
+import java.util.List;
+import java.util.Map;
+import java.util.NoSuchElementException;
+import java.util.TreeMap;
+
+/**
+ * Runs of calls against a second program that is written as the document's terms say it: nothing is
+ * kept that can be counted, so that a count or a place that goes astray in the class shows.
+ */
+public final class ModelTest {
+    private static final int RUNS = 3000;
+    private static final int CALLS = 400;
+    private static final int SHOWN = 5;
+
+    private static final class Sheet {
+        final int[] words = new int[4];
+    }
+
+    private static final class Model {
+        final Sheet[] frames;
+        final Sheet[] slots;
+        final boolean[] marks;
+        final Sheet[][] pages = new Sheet[6][];
+        int hand;
+        int faults;
+        int evicted;
+        int copied;
+
+        Model(int f, int s) {
+            frames = new Sheet[f < 2 ? 2 : f > 8 ? 8 : f];
+            slots = new Sheet[s < 0 ? 0 : s > 10 ? 10 : s];
+            marks = new boolean[frames.length];
+        }
+
+        static int find(Object[] row, Object what) {
+            for (int i = 0; i < row.length; i++) {
+                if (row[i] == what) {
+                    return i;
+                }
+            }
+            return -1;
+        }
+
+        int count(Sheet sheet) {
+            int n = 0;
+            for (Sheet[] process : pages) {
+                for (int i = 0; process != null && i < 6; i++) {
+                    n += process[i] == sheet ? 1 : 0;
+                }
+            }
+            return n;
+        }
+
+        /** Frees the places of sheets that no page has any more: how many there were. */
+        int sweep() {
+            int gone = 0;
+            for (int i = 0; i < frames.length; i++) {
+                if (frames[i] != null && count(frames[i]) == 0) {
+                    frames[i] = null;
+                    marks[i] = false;
+                    gone++;
+                }
+            }
+            for (int i = 0; i < slots.length; i++) {
+                if (slots[i] != null && count(slots[i]) == 0) {
+                    slots[i] = null;
+                    gone++;
+                }
+            }
+            return gone;
+        }
+
+        int getFrame() {
+            int free = find(frames, null);
+            if (free >= 0) {
+                return free;
+            }
+            while (marks[hand]) {
+                marks[hand] = false;
+                hand = (hand + 1) % frames.length;
+            }
+            int got = hand;
+            slots[find(slots, null)] = frames[got];
+            frames[got] = null;
+            evicted++;
+            hand = (hand + 1) % frames.length;
+            return got;
+        }
+
+        Sheet make() {
+            if (find(frames, null) < 0 && find(slots, null) < 0) {
+                throw new IllegalStateException();
+            }
+            Sheet sheet = new Sheet();
+            frames[getFrame()] = sheet;
+            faults++;
+            return sheet;
+        }
+
+        void bringIn(Sheet sheet) {
+            int slot = find(slots, sheet);
+            if (slot >= 0) {
+                slots[slot] = null;
+                frames[getFrame()] = sheet;
+                faults++;
+            }
+        }
+
+        int newProcess() {
+            int p = find(pages, null);
+            if (p < 0) {
+                throw new IllegalStateException();
+            }
+            return p;
+        }
+
+        void need(int p) {
+            if (p < 0 || p > 5 || pages[p] == null) {
+                throw new NoSuchElementException();
+            }
+        }
+
+        void within(long low, long high, int limit) {
+            if (low < 0 || high > limit) {
+                throw new IndexOutOfBoundsException();
+            }
+        }
+
+        int spawn() {
+            int p = newProcess();
+            pages[p] = new Sheet[6];
+            return p;
+        }
+
+        int fork(int p) {
+            need(p);
+            int q = newProcess();
+            pages[q] = pages[p].clone();
+            return q;
+        }
+
+        int exit(int p) {
+            need(p);
+            pages[p] = null;
+            return sweep();
+        }
+
+        boolean drop(int p, int page) {
+            need(p);
+            within(page, page, 5);
+            pages[p][page] = null;
+            return sweep() == 1;
+        }
+
+        int load(int p, int address) {
+            need(p);
+            within(address, address, 23);
+            Sheet sheet = pages[p][address / 4];
+            if (sheet == null) {
+                return 0;
+            }
+            bringIn(sheet);
+            marks[find(frames, sheet)] = true;
+            return sheet.words[address % 4];
+        }
+
+        void store(int p, int address, int word) {
+            need(p);
+            within(address, address, 23);
+            Sheet sheet = pages[p][address / 4];
+            if (sheet == null) {
+                sheet = make();
+            } else if (count(sheet) > 1) {
+                int[] words = sheet.words;
+                sheet = make();
+                System.arraycopy(words, 0, sheet.words, 0, 4);
+            } else {
+                bringIn(sheet);
+            }
+            pages[p][address / 4] = sheet;
+            marks[find(frames, sheet)] = true;
+            sheet.words[address % 4] = word;
+        }
+
+        void copy(int p, int from, int to, int n) {
+            need(p);
+            within(n, 0, 0);
+            if (n > 0) {
+                within(from, (long) from + n - 1, 23);
+                within(to, (long) to + n - 1, 23);
+            }
+            copied = 0;
+            for (int i = 0; i < n; i++) {
+                store(p, to + i, load(p, from + i));
+                copied++;
+            }
+        }
+
+        int where(Sheet sheet) {
+            int frame = find(frames, sheet);
+            return sheet == null ? -1 : frame >= 0 ? frame : 100 + find(slots, sheet);
+        }
+
+        /** As Checks.state tells it of the class. */
+        String state() {
+            StringBuilder s = new StringBuilder();
+            for (Sheet[] process : pages) {
+                s.append(process != null ? "there " : "not ");
+                for (int page = 0; page < 6; page++) {
+                    Sheet sheet = process == null ? null : process[page];
+                    s.append(where(sheet)).append('*').append(sheet == null ? 0 : count(sheet)).append(' ');
+                }
+            }
+            for (int frame = 0; frame < 8; frame++) {
+                s.append(frame < marks.length && marks[frame] ? 'm' : '-');
+            }
+            s.append(" hand ").append(hand).append(" free ").append(free(frames)).append('/').append(free(slots));
+            s.append(" faults ").append(faults).append(" evicted ").append(evicted);
+            s.append(" copied ").append(copied);
+            return s.toString();
+        }
+
+        static int free(Sheet[] row) {
+            int n = 0;
+            for (Sheet sheet : row) {
+                n += sheet == null ? 1 : 0;
+            }
+            return n;
+        }
+    }
+
+    private long seed;
+    private final Map<String, Integer> seen = new TreeMap<>();
+
+    private ModelTest(long seed) {
+        this.seed = seed;
+    }
+
+    /** Numbers that are the same in every run of the test. */
+    private int pick(int bound) {
+        seed = seed * 6364136223846793005L + 1442695040888963407L;
+        return (int) ((seed >>> 33) % bound);
+    }
+
+    /** Mostly one of 0 .. bound - 1, seldom one outside. */
+    private int near(int bound) {
+        int[] outside = {-1, bound, Integer.MIN_VALUE, Integer.MAX_VALUE};
+        return pick(25) == 0 ? outside[pick(4)] : pick(bound);
+    }
+
+    private String run(int run) {
+        int frames = pick(12) - 1;
+        int slots = pick(14) - 2;
+        ForkedSheets x = new ForkedSheets(frames, slots);
+        Model m = new Model(frames, slots);
+        List<String> calls = new ArrayList<>();
+        calls.add("new(" + frames + ", " + slots + ")");
+        for (int i = 0; i < CALLS; i++) {
+            int kind = pick(100);
+            int p = near(6);
+            int a = near(24);
+            int b = near(24);
+            int page = near(6);
+            int n = pick(4) == 0 ? near(25) : pick(7);
+            Object want;
+            Object got;
+            String call;
+            if (kind < 6) {
+                call = "spawn()";
+                want = Checks.answer(() -> m.spawn());
+                got = Checks.answer(() -> x.spawn());
+            } else if (kind < 14) {
+                call = "fork(" + p + ")";
+                want = Checks.answer(() -> m.fork(p));
+                got = Checks.answer(() -> x.fork(p));
+            } else if (kind < 20) {
+                call = "exit(" + p + ")";
+                want = Checks.answer(() -> m.exit(p));
+                got = Checks.answer(() -> x.exit(p));
+            } else if (kind < 30) {
+                call = "drop(" + p + ", " + page + ")";
+                want = Checks.answer(() -> m.drop(p, page));
+                got = Checks.answer(() -> x.drop(p, page));
+            } else if (kind < 55) {
+                call = "load(" + p + ", " + a + ")";
+                want = Checks.answer(() -> m.load(p, a));
+                got = Checks.answer(() -> x.load(p, a));
+            } else if (kind < 85) {
+                int word = run * CALLS + i;
+                call = "store(" + p + ", " + a + ", " + word + ")";
+                want = Checks.answer(() -> m.store(p, a, word));
+                got = Checks.answer(() -> x.store(p, a, word));
+            } else {
+                call = "copy(" + p + ", " + a + ", " + b + ", " + n + ")";
+                want = Checks.answer(() -> m.copy(p, a, b, n));
+                got = Checks.answer(() -> x.copy(p, a, b, n));
+            }
+            calls.add(call + " " + got);
+            String kindOfAnswer = got instanceof String ? got.toString() : "a value";
+            seen.merge(call.substring(0, call.indexOf('(')) + " " + kindOfAnswer, 1, Integer::sum);
+            if (!want.equals(got)) {
+                return calls + ": due is " + want;
+            }
+            if (!m.state().equals(Checks.state(x))) {
+                return calls + ": the state is " + Checks.state(x) + ", due is " + m.state();
+            }
+        }
+        return null;
+    }
+
+    public static void main(String[] args) {
+        ModelTest test = new ModelTest(20261115);
+        int wrong = 0;
+        for (int run = 0; run < RUNS && wrong < SHOWN; run++) {
+            String fault = test.run(run);
+            if (fault != null) {
+                wrong++;
+                System.out.println("run " + run + ": " + fault);
+            }
+        }
+        System.out.println(RUNS + " runs, " + wrong + " went astray; answers seen: " + test.seen);
+        if (wrong != 0) {
+            System.exit(1);
+        }
+    }
+}
