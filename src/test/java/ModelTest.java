@@ -9,7 +9,7 @@ import java.util.TreeMap;
  * kept that can be counted, so that a count or a place that goes astray in the class shows.
  */
 public final class ModelTest {
-    private static final int RUNS = 3000;
+    private static final int RUNS = 1500;
     private static final int CALLS = 400;
     private static final int SHOWN = 5;
 
@@ -185,7 +185,7 @@ public final class ModelTest {
 
         void copy(int p, int from, int to, int n) {
             need(p);
-            within(n, 0, 0);
+            within(n, n, Integer.MAX_VALUE);
             if (n > 0) {
                 within(from, (long) from + n - 1, 23);
                 within(to, (long) to + n - 1, 23);
@@ -249,58 +249,67 @@ public final class ModelTest {
         return pick(25) == 0 ? outside[pick(4)] : pick(bound);
     }
 
+    /** One call, made on both: its answers, or the names of what they threw. */
+    private record Made(String call, Object want, Object got) {
+    }
+
+    private static Made both(String call, Checks.Call onModel, Checks.Call onClass) {
+        return new Made(call, Checks.answer(onModel), Checks.answer(onClass));
+    }
+
+    private static Made both(String call, Checks.Act onModel, Checks.Act onClass) {
+        return new Made(call, Checks.answer(onModel), Checks.answer(onClass));
+    }
+
+    private Made anyCall(Model m, ForkedSheets x, int word) {
+        int kind = pick(100);
+        int p = near(6);
+        int a = near(24);
+        if (kind < 6) {
+            return both("spawn()", () -> m.spawn(), () -> x.spawn());
+        }
+        if (kind < 14) {
+            return both("fork(" + p + ")", () -> m.fork(p), () -> x.fork(p));
+        }
+        if (kind < 20) {
+            return both("exit(" + p + ")", () -> m.exit(p), () -> x.exit(p));
+        }
+        if (kind < 30) {
+            int page = near(6);
+            return both("drop(" + p + ", " + page + ")", () -> m.drop(p, page), () -> x.drop(p, page));
+        }
+        if (kind < 55) {
+            return both("load(" + p + ", " + a + ")", () -> m.load(p, a), () -> x.load(p, a));
+        }
+        if (kind < 85) {
+            return both("store(" + p + ", " + a + ", " + word + ")",
+                () -> m.store(p, a, word), () -> x.store(p, a, word));
+        }
+        int b = near(24);
+        int n = pick(4) == 0 ? near(25) : pick(7);
+        return both("copy(" + p + ", " + a + ", " + b + ", " + n + ")",
+            () -> m.copy(p, a, b, n), () -> x.copy(p, a, b, n));
+    }
+
+    private void count(Made made) {
+        String name = made.call.substring(0, made.call.indexOf('('));
+        seen.merge(name + " " + (made.got instanceof String ? made.got : "a value"), 1, Integer::sum);
+    }
+
+    /** What went astray, or null. */
     private String run(int run) {
         int frames = pick(12) - 1;
         int slots = pick(14) - 2;
         ForkedSheets x = new ForkedSheets(frames, slots);
         Model m = new Model(frames, slots);
         List<String> calls = new ArrayList<>();
-        calls.add("new(" + frames + ", " + slots + ")");
+        calls.add("new ForkedSheets(" + frames + ", " + slots + ")");
         for (int i = 0; i < CALLS; i++) {
-            int kind = pick(100);
-            int p = near(6);
-            int a = near(24);
-            int b = near(24);
-            int page = near(6);
-            int n = pick(4) == 0 ? near(25) : pick(7);
-            Object want;
-            Object got;
-            String call;
-            if (kind < 6) {
-                call = "spawn()";
-                want = Checks.answer(() -> m.spawn());
-                got = Checks.answer(() -> x.spawn());
-            } else if (kind < 14) {
-                call = "fork(" + p + ")";
-                want = Checks.answer(() -> m.fork(p));
-                got = Checks.answer(() -> x.fork(p));
-            } else if (kind < 20) {
-                call = "exit(" + p + ")";
-                want = Checks.answer(() -> m.exit(p));
-                got = Checks.answer(() -> x.exit(p));
-            } else if (kind < 30) {
-                call = "drop(" + p + ", " + page + ")";
-                want = Checks.answer(() -> m.drop(p, page));
-                got = Checks.answer(() -> x.drop(p, page));
-            } else if (kind < 55) {
-                call = "load(" + p + ", " + a + ")";
-                want = Checks.answer(() -> m.load(p, a));
-                got = Checks.answer(() -> x.load(p, a));
-            } else if (kind < 85) {
-                int word = run * CALLS + i;
-                call = "store(" + p + ", " + a + ", " + word + ")";
-                want = Checks.answer(() -> m.store(p, a, word));
-                got = Checks.answer(() -> x.store(p, a, word));
-            } else {
-                call = "copy(" + p + ", " + a + ", " + b + ", " + n + ")";
-                want = Checks.answer(() -> m.copy(p, a, b, n));
-                got = Checks.answer(() -> x.copy(p, a, b, n));
-            }
-            calls.add(call + " " + got);
-            String kindOfAnswer = got instanceof String ? got.toString() : "a value";
-            seen.merge(call.substring(0, call.indexOf('(')) + " " + kindOfAnswer, 1, Integer::sum);
-            if (!want.equals(got)) {
-                return calls + ": due is " + want;
+            Made made = anyCall(m, x, run * CALLS + i);
+            count(made);
+            calls.add(made.call + " " + made.got);
+            if (!made.want.equals(made.got)) {
+                return calls + ": due is " + made.want;
             }
             if (!m.state().equals(Checks.state(x))) {
                 return calls + ": the state is " + Checks.state(x) + ", due is " + m.state();
