@@ -56,7 +56,25 @@ final class Checks {
         }
     }
 
-    /** All that can be asked without changing anything. */
+    /** Where the six pages of a process lie. */
+    static String places(ForkedSheets x, int p) {
+        StringBuilder s = new StringBuilder();
+        for (int page = 0; page < 6; page++) {
+            s.append(page == 0 ? "" : " ").append(x.where(p, page));
+        }
+        return s.toString();
+    }
+
+    /** The first frames: m for one that is marked. */
+    static String marks(ForkedSheets x, int frames) {
+        StringBuilder s = new StringBuilder();
+        for (int frame = 0; frame < frames; frame++) {
+            s.append(x.marked(frame) ? 'm' : '-');
+        }
+        return s.toString();
+    }
+
+    /** All that can be asked without changing anything: some ninety calls. */
     static String state(ForkedSheets x) {
         StringBuilder s = new StringBuilder();
         for (int p = 0; p < 6; p++) {
@@ -65,9 +83,7 @@ final class Checks {
                 s.append(x.where(p, page)).append('*').append(x.sharers(p, page)).append(' ');
             }
         }
-        for (int frame = 0; frame < 8; frame++) {
-            s.append(x.marked(frame) ? 'm' : '-');
-        }
+        s.append(marks(x, 8));
         s.append(" hand ").append(x.hand());
         s.append(" free ").append(x.freeFrames()).append('/').append(x.freeSlots());
         s.append(" faults ").append(x.faults()).append(" evicted ").append(x.evicted());

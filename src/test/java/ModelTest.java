@@ -9,8 +9,9 @@ import java.util.TreeMap;
  * kept that can be counted, so that a count or a place that goes astray in the class shows.
  */
 public final class ModelTest {
-    private static final int RUNS = 1500;
-    private static final int CALLS = 400;
+    private static final int RUNS = 6000;
+    /** With the ninety calls that ask for the state behind them, an object's 512 are kept. */
+    private static final int MOST_CALLS = 400;
     private static final int SHOWN = 5;
 
     private static final class Sheet {
@@ -296,7 +297,7 @@ public final class ModelTest {
         seen.merge(name + " " + (made.got instanceof String ? made.got : "a value"), 1, Integer::sum);
     }
 
-    /** What went astray, or null. */
+    /** A run of any length, the whole state looked at behind it: what went astray, or null. */
     private String run(int run) {
         int frames = pick(12) - 1;
         int slots = pick(14) - 2;
@@ -304,18 +305,17 @@ public final class ModelTest {
         Model m = new Model(frames, slots);
         List<String> calls = new ArrayList<>();
         calls.add("new ForkedSheets(" + frames + ", " + slots + ")");
-        for (int i = 0; i < CALLS; i++) {
-            Made made = anyCall(m, x, run * CALLS + i);
+        int length = 1 + pick(MOST_CALLS);
+        for (int i = 0; i < length; i++) {
+            Made made = anyCall(m, x, run * MOST_CALLS + i);
             count(made);
             calls.add(made.call + " " + made.got);
             if (!made.want.equals(made.got)) {
                 return calls + ": due is " + made.want;
             }
-            if (!m.state().equals(Checks.state(x))) {
-                return calls + ": the state is " + Checks.state(x) + ", due is " + m.state();
-            }
         }
-        return null;
+        String got = Checks.state(x);
+        return m.state().equals(got) ? null : calls + ": the state is " + got + ", due is " + m.state();
     }
 
     public static void main(String[] args) {

@@ -1,4 +1,7 @@
-/** The promises of the document one by one: ordinary inputs, named edges, wrong inputs. */
+/**
+ * The promises of the document one by one: ordinary inputs, edges, wrong inputs. That a refused call
+ * changes nothing is looked at in RefusedCallsTest.
+ */
 public final class PromisesTest {
     private static final int MIN = Integer.MIN_VALUE;
     private static final int MAX = Integer.MAX_VALUE;
@@ -43,12 +46,6 @@ public final class PromisesTest {
         return x;
     }
 
-    private static void unchanged(String what, ForkedSheets x, Checks.Act act, String exception) {
-        String before = Checks.state(x);
-        due(what, exception, Checks.answer(act));
-        due("the state behind " + what, before, Checks.state(x));
-    }
-
     private static void newObject() {
         int[][] sizes = {
             {2, 0, 2, 0}, {8, 10, 8, 10}, {5, 4, 5, 4}, {1, -1, 2, 0}, {9, 11, 8, 10},
@@ -79,7 +76,7 @@ public final class PromisesTest {
             due("spawn", p, x.spawn());
             due("where", ForkedSheets.EMPTY, x.where(p, 5));
         }
-        unchanged("spawn when all are there", x, x::spawn, "IllegalStateException");
+        checks.illegalState("spawn when all are there", x::spawn);
         x.store(4, 0, 9);
         x.exit(4);
         x.exit(2);
@@ -111,8 +108,8 @@ public final class PromisesTest {
         while (!x.isThere(5)) {
             x.spawn();
         }
-        unchanged("fork when all are there", x, () -> x.fork(0), "IllegalStateException");
-        unchanged("fork of none when all are there", x, () -> x.fork(6), "NoSuchElementException");
+        checks.illegalState("fork when all are there", () -> x.fork(0));
+        checks.noSuchElement("fork of none when all are there", () -> x.fork(6));
     }
 
     private static void exit() {
@@ -188,8 +185,8 @@ public final class PromisesTest {
         checks.noSuchElement("store of none", () -> x.store(0, 0, 1));
         checks.noSuchElement("store of none and no address", () -> x.store(-1, -1, 1));
         x.spawn();
-        unchanged("store below", x, () -> x.store(0, -1, 1), "IndexOutOfBoundsException");
-        unchanged("store above", x, () -> x.store(0, 24, 1), "IndexOutOfBoundsException");
+        checks.outOfBounds("store below", () -> x.store(0, -1, 1));
+        checks.outOfBounds("store above", () -> x.store(0, 24, 1));
         x.store(0, 23, 0);
         due("a stored 0 makes a sheet, too", 0, x.where(0, 5));
         due("it is marked", true, x.marked(0));
@@ -237,22 +234,22 @@ public final class PromisesTest {
 
     private static void storeThatCanNotBe() {
         ForkedSheets x = withPages(2, 1, 3);
-        unchanged("store into an empty page", x, () -> x.store(0, 12, 1), "IllegalStateException");
-        unchanged("store of 0, too", x, () -> x.store(0, 12, 0), "IllegalStateException");
-        unchanged("address first", x, () -> x.store(0, 24, 0), "IndexOutOfBoundsException");
+        checks.illegalState("store into an empty page", () -> x.store(0, 12, 1));
+        checks.illegalState("store of 0, too", () -> x.store(0, 12, 0));
+        checks.outOfBounds("address first", () -> x.store(0, 24, 0));
         x.store(0, 0, 5);
         due("into a page in a slot it can be", 5, x.load(0, 0));
         x.fork(0);
         for (int page = 0; page < 3; page++) {
             int address = 4 * page;
-            unchanged("store into a shared page", x, () -> x.store(1, address, 1), "IllegalStateException");
+            checks.illegalState("store into a shared page", () -> x.store(1, address, 1));
         }
         x.exit(0);
         x.store(1, 4, 6);
         due("when it is shared no more it can be", 6, x.load(1, 4));
 
         ForkedSheets y = withPages(2, 0, 2);
-        unchanged("store without slots", y, () -> y.store(0, 8, 1), "IllegalStateException");
+        checks.illegalState("store without slots", () -> y.store(0, 8, 1));
         y.drop(0, 0);
         y.store(0, 8, 1);
         due("a free frame will do", 0, y.where(0, 2));
@@ -305,11 +302,11 @@ public final class PromisesTest {
             {0, 0, 25}, {0, 0, MAX}, {MAX, 0, 1}, {0, MAX, MAX}, {MIN, 0, MAX}, {23, 23, MAX}, {99, 0, -1}};
         for (int[] o : outside) {
             String name = "copy(0, " + o[0] + ", " + o[1] + ", " + o[2] + ")";
-            unchanged(name, x, () -> x.copy(0, o[0], o[1], o[2]), "IndexOutOfBoundsException");
-            unchanged("of none: " + name, x, () -> x.copy(1, o[0], o[1], o[2]), "NoSuchElementException");
+            checks.outOfBounds(name, () -> x.copy(0, o[0], o[1], o[2]));
+            checks.noSuchElement("of none: " + name, () -> x.copy(1, o[0], o[1], o[2]));
         }
-        unchanged("bounds before state", x, () -> x.copy(0, 0, 12, 13), "IndexOutOfBoundsException");
-        unchanged("no process, no words", x, () -> x.copy(-1, 0, 0, 0), "NoSuchElementException");
+        checks.outOfBounds("bounds before state", () -> x.copy(0, 0, 12, 13));
+        checks.noSuchElement("no process, no words", () -> x.copy(-1, 0, 0, 0));
         due("no words have no addresses", "done", Checks.answer(() -> x.copy(0, MAX, MIN, 0)));
 
         x.drop(0, 1);
